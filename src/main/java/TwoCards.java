@@ -873,6 +873,8 @@ public final class TwoCards {
         private int at;
         private int parts;
         private int fault;
+        /** Whether a test is due behind the head of the clause that was read last. */
+        private boolean isTested;
 
         /** The FAULT; 0 without. */
         int read(Tape tape, Code into) {
@@ -883,7 +885,7 @@ public final class TwoCards {
             parts = 0;
             fault = 0;
             for (int i = 0; i <= MOST_CLAUSES; i++) {
-                if (!readClause()) {
+                if (!readHead() || isTested && !readTest(0)) {
                     return fault;
                 }
                 if (tokens.kindAt(at) == Tokens.END) {
@@ -897,7 +899,8 @@ public final class TwoCards {
             return fault;
         }
 
-        private boolean readClause() {
+        /** All of a clause ahead of its test. */
+        private boolean readHead() {
             int sort = wordFrom(Tokens.CLAUSE_WORD, Tokens.KIND_WORD);
             if (sort < 0) {
                 return fail(WRONG);
@@ -906,11 +909,13 @@ public final class TwoCards {
                 return fail(WRONG_CLAUSE);
             }
             at++;
+            isTested = sort == MAY_REFUSE;
             switch (sort) {
                 case SLIGHT: return readWeight(sort, wordFrom(Tokens.KIND_WORD, Tokens.MEANS_WORD), 9);
                 case TAKE_BACK: return readWeight(sort, wordFrom(Tokens.MEANS_WORD, Tokens.IF), 15);
-                case MAY_REFUSE: code.addClause(sort, 0, 0); return readTest(0);
-                default: return readMeasure(sort);
+                case MAY_REFUSE: code.addClause(sort, 0, 0); return true;
+                case HOURS_AT_FIRST: return readMeasure(sort, 1, MOST_HOURS);
+                default: return readMeasure(sort, 0, MOST_OWED);
             }
         }
 
@@ -924,13 +929,13 @@ public final class TwoCards {
                 return false;
             }
             code.addClause(sort, kind, number);
-            return !takes(Tokens.IF) || readTest(0);
+            isTested = takes(Tokens.IF);
+            return true;
         }
 
-        private boolean readMeasure(int sort) {
-            boolean isHours = sort == HOURS_AT_FIRST;
+        private boolean readMeasure(int sort, int least, int most) {
             int number = tokens.numberAt(at);
-            if (!takesNumber(isHours ? 1 : 0, isHours ? MOST_HOURS : MOST_OWED)) {
+            if (!takesNumber(least, most)) {
                 return false;
             }
             code.addClause(sort, 0, number);
@@ -968,7 +973,18 @@ public final class TwoCards {
             int kind = tokens.kindAt(at);
             boolean isBracket = kind == Tokens.SIGN + '[';
             if (!isBracket && kind != Tokens.NOT) {
-                return readComparison();
+                if (!readSum()) {
+                    return false;
+                }
+                int step = comparisonOf(tokens.kindAt(at));
+                if (step < 0) {
+                    return fail(WRONG);
+                }
+                if (!takesPart() || !readSum()) {
+                    return false;
+                }
+                code.addStep(step);
+                return true;
             }
             if (depth >= MOST_DEEP) {
                 return fail(TOO_DEEP);
@@ -981,21 +997,6 @@ public final class TwoCards {
                 return false;
             }
             code.addStep(Code.NOT);
-            return true;
-        }
-
-        private boolean readComparison() {
-            if (!readSum()) {
-                return false;
-            }
-            int step = comparisonOf(tokens.kindAt(at));
-            if (step < 0) {
-                return fail(WRONG);
-            }
-            if (!takesPart() || !readSum()) {
-                return false;
-            }
-            code.addStep(step);
             return true;
         }
 

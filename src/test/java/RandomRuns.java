@@ -11,6 +11,8 @@ public final class RandomRuns {
     private final TwoCards cards = new TwoCards();
     private final Model model = new Model();
     private final List<String> calls = new ArrayList<>();
+    /** How often of a hundred an argument is odd. */
+    private int odd = 3;
     private static int wrong = 0;
     private static long compared = 0;
     private static final TreeMap<String, Integer> seen = new TreeMap<>();
@@ -64,11 +66,11 @@ public final class RandomRuns {
 
     /** Mostly a number that is as told, at times one beside it or far off. */
     private int about(int least, int most) {
-        if (chance(97)) {
+        if (!chance(odd)) {
             return least + below(most - least + 1);
         }
-        int[] odd = {least - 1, most + 1, Integer.MIN_VALUE, Integer.MAX_VALUE, -1, -2, 99};
-        return odd[below(odd.length)];
+        int[] ends = {least - 1, most + 1, Integer.MIN_VALUE, Integer.MAX_VALUE, -1, -2, 99, random.nextInt()};
+        return ends[below(ends.length)];
     }
 
     private void run() {
@@ -84,6 +86,7 @@ public final class RandomRuns {
             int c = about(0, Math.max(0, model.codes.size() - 1));
             same("keeps(" + i + "," + c + ")", cards.keeps(i, c) ? 1 : 0, model.keeps(i, c) ? 1 : 0);
         }
+        odd = chance(10) ? 40 : 2;
         int more = 60 + below(220);
         for (int i = 0; i < more && wrong == 0; i++) {
             step();
@@ -126,6 +129,10 @@ public final class RandomRuns {
         boolean asks = false;
         boolean hours = false;
         boolean must = false;
+        // slights that weigh something, so that quarrels go on
+        for (int kind = random.nextInt(5); kind < 4; kind++) {
+            clauses.add("slight " + Model.KINDS.get(kind) + " " + (1 + random.nextInt(6)));
+        }
         for (int i = 0; i < n; i++) {
             switch (random.nextInt(9)) {
                 case 0: case 1: case 2:
