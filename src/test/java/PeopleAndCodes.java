@@ -364,11 +364,12 @@ public final class PeopleAndCodes {
             "owed=4", "mine=5", "gone=6", "age+rank-hisage+hisrank=1", "rank-hisrank<0", "0-1<0", "3<=3", "3>=3", "2<3",
             "3>2", "9999>9998", "1-1-1=0-1", "1=2 or 1=1", "1=1 and 2=2", "not 1=2", "not not 1=1",
             "1=1 or 1=1 and 1=2", "1=2 and 1=1 or 1=1", "not 1=2 and 1=1", "not [1=1 and 1=2]", "[1=2 or 1=1] and 1=1",
-            "1-2+2=1", "1=1 or 1=2 or 1=2", "not 1=1 or 1=1"}) {
+            "1-2+2=1", "1=1 and 2<3", "2<3 and 1=1", "3<=3 and 1=1 and 3>=3", "3>2 and 1=1", "not 3<3 and not 3>3", "0000=0", "0<1", "0-9999<0-9998", "1=1 or 1=2 or 1=2", "not 1=1 or 1=1"}) {
             holds(test, true);
         }
         for (String test : new String[] {"3<3", "3>3", "3<=2", "3>=4", "1=2", "1=2 or 2=1", "1=1 and 1=2", "not 1=1",
-            "[1=1 or 1=1] and 1=2", "not [1=2 or 1=1]", "not 1=1 and 1=1", "1=2 and 1=1", "1=1 and 1=1 and 1=2"}) {
+            "[1=1 or 1=1] and 1=2", "not [1=2 or 1=1]", "not 2<3", "not 3<=3", "not 3=3", "not 3>=3", "not 3>2",
+            "not [1=1 and 2<3]", "1=2 and 2<3", "1=2 and 3<=3", "2<3 and 3>=4", "not [2<3 or 1=2]", "not not 2<2", "0>0", "not 1=1 and 1=1", "1=2 and 1=1", "1=1 and 1=1 and 1=2"}) {
             holds(test, false);
         }
         TwoCards x = new TwoCards();

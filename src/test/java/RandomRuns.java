@@ -6,6 +6,9 @@ import java.util.TreeMap;
 /** Runs of random calls on a TwoCards and on the Model, whose answers have to be the same. */
 public final class RandomRuns {
     private static final int RUNS = 1500;
+    /** What later calls answer is free; a step asks no more than some thirty. */
+    private static final int MOST_CALLS = 512;
+    private static final int MOST_OF_A_STEP = 32;
 
     private final Random random;
     private final TwoCards cards = new TwoCards();
@@ -25,7 +28,12 @@ public final class RandomRuns {
         int runs = args.length > 0 ? Integer.parseInt(args[0]) : RUNS;
         int from = args.length > 1 ? Integer.parseInt(args[1]) : 1;
         for (int seed = from; seed < from + runs && wrong < 5; seed++) {
-            new RandomRuns(seed).run();
+            RandomRuns one = new RandomRuns(seed);
+            one.run();
+            if (one.calls.size() > MOST_CALLS) {
+                wrong++;
+                System.out.println("seed " + seed + " has " + one.calls.size() + " calls");
+            }
         }
         if (args.length > 0) {
             seen.forEach((what, n) -> System.out.println(what + ": " + n));
@@ -88,7 +96,7 @@ public final class RandomRuns {
         }
         odd = chance(10) ? 40 : 2;
         int more = 60 + below(220);
-        for (int i = 0; i < more && wrong == 0; i++) {
+        for (int i = 0; i < more && wrong == 0 && calls.size() <= MOST_CALLS - MOST_OF_A_STEP; i++) {
             step();
         }
     }
