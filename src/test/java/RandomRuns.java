@@ -5,7 +5,7 @@ import java.util.TreeMap;
 
 /** Runs of random calls on a TwoCards and on the Model, whose answers have to be the same. */
 public final class RandomRuns {
-    private static final int RUNS = 1500;
+    private static final int RUNS = 500;
     /** What later calls answer is free; a step asks no more than some thirty. */
     private static final int MOST_CALLS = 512;
     private static final int MOST_OF_A_STEP = 32;
